@@ -75,7 +75,7 @@ public final class LockLookMemory {
 
         int firstWithin(int machineSet) {
             for (int slot = 0; slot < copies; slot++) {
-                if (holds(machineSet, order[slot])) {
+                if ((machineSet & (1 << order[slot])) != 0) {
                     return order[slot];
                 }
             }
@@ -159,10 +159,6 @@ public final class LockLookMemory {
 
         Item itemAt(int i) {
             return i >= 0 && i < items.size() ? items.get(i) : null;
-        }
-
-        Item itemAtCursor() {
-            return itemAt(cursor / MACHINES);
         }
 
         Item itemOf(Region home, int object) {
@@ -552,7 +548,7 @@ public final class LockLookMemory {
     }
 
     private static boolean holds(int machineSet, int machine) {
-        return (machineSet & bit(machine)) != 0;
+        return (machineSet & (1 << machine)) != 0;
     }
 
     private static int cell(int row, int object) {
@@ -607,8 +603,8 @@ public final class LockLookMemory {
     }
 
     private boolean isBackup(Region home, int slot) {
-        return slot >= 0 && slot < home.copies && isMember(home.order[slot])
-            && home.order[slot] != primaryOf(home);
+        return slot >= 0 && slot < home.copies && holds(members, home.order[slot])
+            && home.order[slot] != home.firstWithin(members);
     }
 
     private int machineOfCopy(Region home, int i) {
@@ -736,7 +732,7 @@ public final class LockLookMemory {
     // ---- acts
 
     private int tryAct(Transaction t) {
-        Item item = t.itemAtCursor();
+        Item item = t.itemAt(t.cursor / MACHINES);
         if (!t.isUnderWay() || item == null) {
             return STATE;
         }
@@ -838,7 +834,7 @@ public final class LockLookMemory {
     private boolean findNextAct(Transaction t) {
         int end = t.cursorEnd();
         while (t.cursor < end) {
-            Item item = t.itemAtCursor();
+            Item item = t.itemAt(t.cursor / MACHINES);
             if (item != null && hasAct(t, item, t.slot())) {
                 return true;
             }

@@ -86,6 +86,15 @@ public final class MachinesTest {
             "region(0, 1, NONE) = 0; region(2, 3, NONE) = 1; begin(5) = 0; write(0, 0, 0, 5) = 1; read(0, 1, 0) = 0",
             "copy(0, 3) = 3; begin(5) = 1; write(1, 1, 1, 5) = 1; read(1, 0, 1) = 0; commit(1) = 1; copy(1, 4) = STATE",
             "run(1, 100) = 5; about(1, 0) = 7; copy(1, 4) = 3");
+        play.run("5 copy: one that is under way may read there, or write elsewhere",
+            "region(0, 1, NONE) = 0; region(2, 3, NONE) = 1; begin(5) = 0; write(0, 1, 1, 5) = 1; read(0, 0, 1) = 0; commit(0) = 1",
+            "copy(0, 4) = 3; copy(1, 4) = STATE");
+        play.run("5 copy: six copies in all, of which three are left",
+            "region(5, 4, 3) = 0; fail(5) = 5; fail(4) = 4; configure() = 0; copy(0, 2) = 2; copy(0, 1) = 3; fail(3) = 3; configure() = 0",
+            "copy(0, 0) = 3; copyAt(0, 0) = 2; copyAt(0, 2) = 0; copyAt(0, 3) = NONE; begin(1) = 0; write(0, 0, 0, 5) = 1; commit(0) = 1",
+            "run(0, 100) = 6; about(0, 0) = 7; object(0, 2, 0, 0) = 5; unlike() = NONE; machine(0, 2) = 1; machine(5, 2) = 1",
+            "write(0, 0, 0, 6) = STATE; begin(1) = 1; write(1, 0, 0, 6) = 1; commit(1) = 1; run(1, 4) = 4; fail(2) = 2; fail(1) = 1",
+            "configure() = 1; about(1, 0) = 7; object(0, 0, 0, 0) = 6; copyAt(0, 0) = 0; fail(0) = 0; configure() = STATE");
     }
 
     private static void machine() {

@@ -57,6 +57,9 @@ public final class TransactionsTest {
             "region(0, NONE, NONE) = 0; region(1, NONE, NONE) = 1; begin(4) = 0; begin(5) = 1; read(0, 0, 0) = 0; fail(0) = 5",
             "read(0, 0, 0) = WAITS; configure() = 0; read(0, 0, 0) = LOST; read(0, 0, 1) = LOST; fail(4) = 4",
             "read(0, 0, 0) = LOST; read(0, 1, 0) = WAITS; drop(1) = 8; read(1, 0, 0) = STATE; read(1, 0, 9) = UNKNOWN");
+        play.run("10 read: LOST while machine 0 is up",
+            "region(1, 2, NONE) = 0; begin(4) = 0; fail(1) = 5; fail(2) = 4; configure() = 0; read(0, 0, 0) = LOST",
+            "write(0, 0, 0, 1) = LOST; copy(0, 3) = LOST; count(9) = 1; about(0, 2) = 0");
         play.run("10 read: FULL, behind WAITS", region,
             "region(2, NONE, NONE) = 1; begin(4) = 0; begin(5) = 1",
             "read(0, 0, 0) = 0; read(0, 0, 1) = 0; read(0, 0, 2) = 0; read(0, 0, 3) = 0; write(0, 0, 4, 4) = 1",

@@ -12,7 +12,7 @@ public final class WholeTest {
     private static void check() {
         play.run("18 check: by place, not by number",
             "region(0, 1, NONE) = 0; begin(4) = 0; begin(4) = 1; write(1, 0, 0, 5) = 1; commit(1) = 1; run(1, 100) = 4",
-            "read(0, 0, 0) = 5; write(0, 0, 0, 6) = 1; commit(0) = 1; run(0, 100) = 4; about(1, 5) = 1; about(0, 5) = 2; check() = NONE");
+            "read(0, 0, 0) = 5; write(0, 0, 0, 6) = 1; commit(0) = 1; run(0, 100) = 4; about(1, 5) = 1; about(0, 5) = 2; check() = NONE; check() = NONE");
         String readOfOneThatIsLost =
             "region(0, NONE, NONE) = 0; region(1, NONE, NONE) = 1; begin(5) = 0; begin(5) = 1; begin(5) = 2; begin(5) = 3;"
             + "write(0, 0, 0, 7) = 1; write(0, 1, 0, 8) = 2; commit(0) = 1; run(0, 3) = 3; about(0, 0) = 4";
