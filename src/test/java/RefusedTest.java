@@ -1,13 +1,9 @@
-import java.util.ArrayList;
 import java.util.List;
-import java.util.Set;
 
 /** What is refused changes nothing, questions change nothing, and no call throws. */
 public final class RefusedTest {
     private static final int RUNS = 60;
     private static final int CALLS = 512;
-    private static final Set<String> QUESTIONS =
-        Set.of("machine", "copyAt", "object", "about", "item", "check", "unlike", "count");
 
     public static void main(String[] args) {
         int refused = 0;
@@ -25,13 +21,12 @@ public final class RefusedTest {
         RandomCalls calls = new RandomCalls(seed);
         LockLookMemory memory = new LockLookMemory();
         int refused = 0;
-        List<Integer> before = all(memory);
+        List<Integer> before = Snapshot.of(memory);
         for (int turn = 0; turn < CALLS; turn++) {
             RandomCalls.Call call = calls.next(turn);
             int answer = Play.answer(memory, call.name(), call.arguments());
-            List<Integer> after = all(memory);
-            boolean isRefusal = answer < 0 && answer > -9;
-            if (isRefusal || QUESTIONS.contains(call.name())) {
+            List<Integer> after = Snapshot.of(memory);
+            if (Play.isToChangeNothing(call.name(), answer)) {
                 refused++;
                 if (!after.equals(before)) {
                     System.out.println("seed " + seed + ": " + call + " answered " + answer + " and changed something");
@@ -41,40 +36,6 @@ public final class RefusedTest {
             before = after;
         }
         return refused;
-    }
-
-    /** Every answer that can be asked for without changing anything. */
-    private static List<Integer> all(LockLookMemory memory) {
-        List<Integer> found = new ArrayList<>(List.of(memory.check(), memory.unlike()));
-        for (int what = 0; what < 10; what++) {
-            found.add(memory.count(what));
-        }
-        for (int m = 0; m < 6; m++) {
-            for (int what = 0; what < 4; what++) {
-                found.add(memory.machine(m, what));
-            }
-        }
-        for (int r = 0; r < memory.count(0); r++) {
-            for (int i = 0; i < 4; i++) {
-                found.add(memory.copyAt(r, i));
-                for (int object = 0; object < 8; object++) {
-                    for (int what = 0; what < 4; what++) {
-                        found.add(memory.object(r, i, object, what));
-                    }
-                }
-            }
-        }
-        for (int t = 0; t < memory.count(1); t++) {
-            for (int what = 0; what < 6; what++) {
-                found.add(memory.about(t, what));
-            }
-            for (int i = 0; i < memory.about(t, 2); i++) {
-                for (int what = 0; what < 5; what++) {
-                    found.add(memory.item(t, i, what));
-                }
-            }
-        }
-        return found;
     }
 
     private static void everyArgument() {
