@@ -11,12 +11,12 @@ import java.util.regex.Matcher;
 import java.util.regex.Pattern;
 
 /**
- * DOC.md in sections ("What it is", "Terms", "Terms 1" to "Terms 4", "Promise 1" to "Promise 20"),
- * each with the words of it that were quoted so far.
+ * DOC.md in sections ("What it is", "The public face", "Terms", "Terms 1" to "Terms 4", "Promise 1"
+ * to "Promise 20"), each with the words of it that were quoted so far.
  */
 final class Document {
     private static final Path FILE = Path.of("../shared/DOC.md");
-    private static final Pattern HEADING = Pattern.compile("## (What it is|Terms|Promise \\d+).*");
+    private static final Pattern HEADING = Pattern.compile("## (What it is|The public face|Terms|Promise \\d+).*");
     private static final Pattern NUMBERED_TERM = Pattern.compile("==== (\\d) (.*)");
     private static final Pattern SIGNATURE = Pattern.compile("`(int )?\\w+\\([^)]*\\)`: ");
 

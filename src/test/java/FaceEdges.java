@@ -7,7 +7,7 @@ import java.util.List;
 import java.util.regex.Matcher;
 import java.util.regex.Pattern;
 
-/** What it is; and what the interface says ahead of its calls, at the end of Terms 4. */
+/** What it is; the public face; and what the interface says ahead of its calls, at the end of Terms 4. */
 final class FaceEdges {
     private final Sentences s;
 
@@ -18,6 +18,8 @@ final class FaceEdges {
     void play() {
         s.in("What it is");
         whatItIs();
+        s.in("The public face");
+        thePublicFace();
         s.in("Terms 4");
         theInterface();
     }
@@ -50,6 +52,39 @@ final class FaceEdges {
             Sentences.each(0, 59, "begin(5) = #; read(#, 0, 0) = 0; commit(#) = 2; step(#) = 7"),
             Sentences.each(0, 59, "read(#, 0, 0) = STATE; about(#, 0) = 7; item(#, 0, 1) = 0; begin(5) = FULL"),
             Sentences.each(1, 29, "count(5) = 60"), "about(59, 5) = 60; check() = NONE");
+    }
+
+    private void thePublicFace() {
+        inSource("public final class LockLookMemory {");
+        inSource("public static final int UNKNOWN = -1, OUTSIDE = -2, STATE = -3, FULL = -4, LOST = -5, WAITS = -6, NONE = -9;");
+        inSource("public LockLookMemory();");
+        inSource("public int region(int a, int b, int c);");
+        inSource("public int fail(int machine);");
+        inSource("public int configure();");
+        inSource("public int copy(int region, int machine);");
+        inSource("public int machine(int machine, int what);");
+        inSource("public int copyAt(int region, int i);");
+        inSource("public int object(int region, int i, int object, int what);");
+        inSource("public int begin(int machine);");
+        inSource("public int read(int transaction, int region, int object);");
+        inSource("public int write(int transaction, int region, int object, int value);");
+        inSource("public int commit(int transaction);");
+        inSource("public int drop(int transaction);");
+        inSource("public int step(int transaction);");
+        inSource("public int run(int transaction, int n);");
+        inSource("public int about(int transaction, int what);");
+        inSource("public int item(int transaction, int i, int what);");
+        inSource("public int check();");
+        inSource("public int unlike();");
+        inSource("public int count(int what);");
+        s.due("public final class LockLookMemory {", "nothing else in the class is public",
+            Pattern.compile("\\bpublic\\b").matcher(source()).results().count(), 22);
+    }
+
+    /** The line stands in the class once, a call's with its body in place of the semicolon. */
+    private void inSource(String line) {
+        String due = "\n *" + Pattern.quote(line.replace(");", ") {")) + "\n";
+        s.due(line, "in the class's own text", Pattern.compile(due).matcher(source()).results().count(), 1);
     }
 
     private void theInterface() {
